@@ -272,12 +272,12 @@ public final class DrawCommands {
         }
     }
 
+    /** Argument 0 of a uniform is its own n, told or untold, so it needs no writing. */
     private void keepUniforms() {
         int many = command.at(1);
         for (int i = 0; i < many; i++) {
             int n = command.at(0) + i;
             int from = command.at(2) + WORDS_OF_UNIFORM * i;
-            told.set(UNIFORM, n, 0, n);
             for (int k = 0; k < WORDS_OF_UNIFORM; k++) {
                 told.set(UNIFORM, n, k + 1, read(memory, from + k));
             }

@@ -8,8 +8,6 @@ public final class WildTest {
     private static final int[] ODD = {0, 1, 2, -1, 3, 4, 7, 8, 11, 15, 16, 31, 32, 33, 127, 128, 129, 255,
         256, 257, 1023, 1024, 1025, 4000, 4093, 4094, 4095, 4096, 4097, 1 << 20, (1 << 20) + 1, (1 << 24) - 1,
         1 << 24, Integer.MAX_VALUE, Integer.MIN_VALUE, Integer.MIN_VALUE + 1, Integer.MAX_VALUE - 1};
-    private static final int[] ARGUMENTS = {0, 4, 6, 4, 5, 5, 3, 2, 2, 6, 2, 8, 6, 1, 1, 1, 2, 3, 5, 2, 6, 2,
-        0, 1, 4, 5};
 
     private static long seed = 20261115L;
 
@@ -86,7 +84,7 @@ public final class WildTest {
     private static void command(DrawCommands x) {
         int kind = likelyKind();
         x.put(kind);
-        int many = kind >= 0 && kind < 26 ? ARGUMENTS[kind] : 1;
+        int many = kind >= 0 && kind < 26 ? Snapshot.ARGUMENTS[kind] : 1;
         for (int k = 0; k < many; k++) {
             x.put(below(2) == 0 ? below(3) : odd());
         }
@@ -115,7 +113,7 @@ public final class WildTest {
         Check.same("run " + run + ": refused", x.about(1) != 0 ? 1 : 0, refused ? 1 : 0);
         if (!refused) {
             Check.same("run " + run + ": a kind", got >= 0 && got < 26 ? 1 : 0, 1);
-            int many = ARGUMENTS[got] + (got == 21 ? x.argument(1) : 0);
+            int many = Snapshot.ARGUMENTS[got] + (got == 21 ? x.argument(1) : 0);
             for (int k = 0; k < many; k++) {
                 x.argument(k);
             }
@@ -139,10 +137,9 @@ public final class WildTest {
         for (int what = 0; what < 7; what++) {
             row[at++] = x.about(what);
         }
-        int[] holders = {0, 0, 1, 1, 8, 32, 0, 1, 1, 4, 1, 2, 1, 1, 1, 1, 1, 0, 0, 0, 0, 0, 0, 0, 4, 4};
         for (int kind = 0; kind < 26; kind++) {
-            for (int n = 0; n < holders[kind]; n++) {
-                for (int k = 0; k < ARGUMENTS[kind]; k++) {
+            for (int n = 0; n < Snapshot.HOLDERS[kind]; n++) {
+                for (int k = 0; k < Snapshot.ARGUMENTS[kind]; k++) {
                     row[at++] = x.kept(kind, n, k);
                 }
             }
