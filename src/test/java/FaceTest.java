@@ -31,7 +31,21 @@ public final class FaceTest {
         }
         Check.same("the face is as due", seen.equals(due) ? 1 : 0, 1);
         Check.same("NONE", DrawCommands.NONE, -1);
+        noPublicNameTwice(c);
         Check.end();
+    }
+
+    private static void noPublicNameTwice(Class<?> c) {
+        for (Method open : c.getDeclaredMethods()) {
+            for (Method hidden : c.getDeclaredMethods()) {
+                boolean twice = Modifier.isPublic(open.getModifiers()) && Modifier.isPrivate(hidden.getModifiers())
+                    && open.getName().equals(hidden.getName());
+                Check.same("a private " + hidden.getName(), twice ? 1 : 0, 0);
+            }
+        }
+        for (Class<?> inner : c.getDeclaredClasses()) {
+            Check.same(inner + " is static", inner.getModifiers() & Modifier.STATIC, Modifier.STATIC);
+        }
     }
 
     private static void note(List<String> seen, Member m, String text) {

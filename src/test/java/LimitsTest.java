@@ -1,172 +1,158 @@
-/**
- * The document's table of kinds, written out anew as text: each argument at its
- * edges and one beyond them, what is kept of it, and what is kept untold.
- */
+/** Each argument of each kind at its edges and one beyond them, in the stream and in a list; lengths; what is kept. */
 public final class LimitsTest {
-    private static final long ANY_LOW = Integer.MIN_VALUE;
-    private static final long ANY_HIGH = Integer.MAX_VALUE;
-    private static final int FAR = 1 << 20;
-    private static final int DEEP = (1 << 24) - 1;
-
-    /** A row a kind: how many are kept side by side, then low, high, untold of each argument. */
-    private static final long[][] TABLE = {
-        {0},
-        {0, 0, 7, 0, ANY_LOW, ANY_HIGH, 0, 0, DEEP, 0, 0, 255, 0},
-        {1, -1023, 1023, 0, -1023, 1023, 0, 1, 1024, 1, 1, 1024, 1, 0, DEEP, 0, 0, DEEP, DEEP},
-        {1, ANY_LOW, ANY_HIGH, 0, ANY_LOW, ANY_HIGH, 0, ANY_LOW, ANY_HIGH, -1, ANY_LOW, ANY_HIGH, 0},
-        {8, 0, 7, 0, 0, FAR, 0, 0, 1024, 0, 0, 4, 0, 0, 3, 0},
-        {32, 0, 31, 0, ANY_LOW, ANY_HIGH, 0, ANY_LOW, ANY_HIGH, 0, ANY_LOW, ANY_HIGH, 0, ANY_LOW, ANY_HIGH, 0},
-        {0, 0, 31, 0, 0, 32, 0, 0, FAR, 0},
-        {1, 0, FAR, -1, 1, 256, 0},
-        {1, 0, FAR, -1, 1, 256, 0},
-        {4, 0, 3, 0, 0, FAR, 0, 0, 10, 0, 0, 10, 0, 1, 11, 1, 0, 7, 0},
-        {1, -1, 7, -1, 0, 1, 0},
-        {2, 0, 1, 0, -1, 7, -1, 0, 255, 0, 0, 255, 0, 0, 255, 0, 0, 7, 0, 0, 7, 0, 0, 7, 0},
-        {1, 0, 14, 0, 0, 14, 0, 0, 14, 0, 0, 14, 0, -1, 4, -1, 0, 4, 0},
-        {1, ANY_LOW, ANY_HIGH, 0},
-        {1, -1, 15, -1},
-        {1, 0, 15, 15},
-        {1, 0, 3, 0, 0, 1, 0},
-        {0, 0, 2, 0, 0, FAR, 0, 0, 4096, 0},
-        {0, 0, 2, 0, 0, FAR, 0, 0, 4096, 0, 0, 2, 0, ANY_LOW, ANY_HIGH, 0},
-        {0, 0, 7, 0, 0, 1, 0},
-        {0, 0, 127, 0, 0, 127, 0, 1, 128, 0, 1, 128, 0, 0, FAR, 0, 0, 2, 0},
-        {0, 0, FAR, 0, 0, 256, 0},
-        {0},
-        {0, 0, FAR, 0},
-        {4, 0, 3, 0, 0, 3, 0, 0, 3, 0, 0, 3, 0},
-        {4, 0, 3, 0, ANY_LOW, ANY_HIGH, 0, ANY_LOW, ANY_HIGH, 0, ANY_LOW, ANY_HIGH, 0, ANY_LOW, ANY_HIGH, 0},
-    };
+    private static final int LIST = 1000;
 
     public static void main(String[] args) {
-        for (int kind = 0; kind < TABLE.length; kind++) {
-            int many = (TABLE[kind].length - 1) / 3;
-            for (int k = 0; k < many; k++) {
-                edges(kind, many, k);
+        Check.sentence("They are (with what each may be; \"any\" is any word)");
+        for (int kind = 0; kind < Table.KINDS; kind++) {
+            for (int k = 0; k < Table.arguments(kind); k++) {
+                edges(kind, k);
             }
-            length(kind, many);
-            untold(kind, many);
-            noneSuch(kind, many);
+        }
+        Check.sentence("A COMMAND is a row of words: its KIND, then its ARGUMENTS.");
+        for (int kind = 0; kind < Table.KINDS; kind++) {
+            cut(kind);
+            whole(kind);
+        }
+        Check.sentence("What was never told is 0, but ..");
+        for (int kind = 0; kind < Table.KINDS; kind++) {
+            untold(kind);
+        }
+        Check.sentence("IllegalArgumentException if there is no such kind, n or argument.");
+        for (int kind = 0; kind < Table.KINDS; kind++) {
+            noneSuch(kind);
         }
         Check.end();
     }
 
-    private static long low(int kind, int k) {
-        return TABLE[kind][1 + 3 * k];
+    /** An argument that leaves the others free: a QUERY begins, for to end it needs an open one. */
+    private static int plain(int kind, int k) {
+        return kind == 19 && k == 1 ? 1 : Table.least(kind, k);
     }
 
-    private static long high(int kind, int k) {
-        return TABLE[kind][2 + 3 * k];
-    }
-
-    /** The command with its other arguments at their lows, with words enough for any STORE. */
-    private static DrawCommands with(int kind, int many, int k, int v) {
-        DrawCommands x = new DrawCommands();
-        Check.put(x, 7, 0, 1, 8, 0, 1, 19, 0, 1, 19, 0, 0, kind);
+    private static int[] words(int kind, int k, int v) {
+        int many = Table.arguments(kind);
+        int[] row = new int[1 + many + (kind == 21 ? 256 : 0)];
+        row[0] = kind;
         for (int i = 0; i < many; i++) {
-            x.put(i == k ? v : (int) low(kind, i));
+            row[1 + i] = i == k ? v : plain(kind, i);
         }
-        for (int i = 0; i < 256 && kind == 21; i++) {
-            x.put(i);
-        }
-        for (int i = 0; i < 4; i++) {
+        return row;
+    }
+
+    /** An object that has come to the words, in the stream or in a list, with programs and the greatest frame. */
+    private static DrawCommands before(boolean inList, int... words) {
+        DrawCommands x = Check.of(7, 0, 1, 8, 0, 1);
+        x.frame(128, 128);
+        if (inList) {
+            Check.put(x, 23, LIST);
+            Check.memory(x, LIST, words);
             x.next();
+        } else {
+            Check.put(x, words);
         }
+        x.next();
+        x.next();
         return x;
     }
 
-    private static void edges(int kind, int many, int k) {
-        String what = "kind " + kind + " argument " + k;
-        if (low(kind, k) > ANY_LOW) {
-            beyond(what, kind, many, k, (int) low(kind, k) - 1);
-            beyond(what, kind, many, k, Integer.MIN_VALUE);
-            beyond(what, kind, many, k, (int) high(kind, k) + 1);
-            beyond(what, kind, many, k, Integer.MAX_VALUE);
+    private static void edges(int kind, int k) {
+        for (int i = 0; i <= 1; i++) {
+            boolean inList = i == 1;
+            if (!Table.isAny(kind, k)) {
+                beyond(inList, kind, k, Table.least(kind, k) - 1);
+                beyond(inList, kind, k, Integer.MIN_VALUE);
+                beyond(inList, kind, k, Table.most(kind, k) + 1);
+                beyond(inList, kind, k, Integer.MAX_VALUE);
+            }
+            within(inList, kind, k, Table.least(kind, k));
+            within(inList, kind, k, Table.most(kind, k));
         }
-        within(what, kind, many, k, (int) low(kind, k));
-        within(what, kind, many, k, (int) high(kind, k));
     }
 
-    private static void beyond(String what, int kind, int many, int k, int v) {
-        Check.refusal(what + " = " + v, with(kind, many, k, v), 3, 12, 0);
+    private static void beyond(boolean inList, int kind, int k, int v) {
+        DrawCommands x = before(inList, words(kind, k, v));
+        Check.refusal("kind " + kind + " argument " + k + " = " + v, x, 3, inList ? LIST : 6, inList ? 1 : 0);
     }
 
-    private static void within(String what, int kind, int many, int k, int v) {
-        DrawCommands x = with(kind, many, k, v);
-        int got = x.next();
-        if (got == DrawCommands.NONE) {
-            // an edge that is so as a value may still be no place, or not fit the state
-            Check.same(what + " = " + v + " is refused as a place or a state", x.about(1) >= 5 ? 1 : 0, 1);
-            Check.same(what + " = " + v + " may be refused", mayStillBeRefused(kind, v) ? 1 : 0, 1);
+    private static void within(boolean inList, int kind, int k, int v) {
+        String what = "kind " + kind + " argument " + k + " = " + v;
+        DrawCommands x = before(inList, words(kind, k, v));
+        int number = refusalOfValue(kind, k, v);
+        if (number != 0) {
+            Check.refusal(what, x, number, inList ? LIST : 6, inList ? 1 : 0);
             return;
         }
-        Check.same(what + " = " + v + " next()", got, kind);
-        Check.same(what + " = " + v + " argument", x.argument(k), v);
-        if (TABLE[kind][0] > 0) {
-            int n = TABLE[kind][0] > 1 ? x.argument(0) : 0;
-            Check.same(what + " = " + v + " kept", x.kept(kind, n, k), v);
+        Check.doneAt(what, x, kind, inList ? LIST : 6, inList ? 1 : 0);
+        Check.same(what + " argument", x.argument(k), v);
+        if (Table.holders(kind) > 0) {
+            Check.same(what + " kept", x.kept(kind, Table.holders(kind) > 1 ? x.argument(0) : 0, k), v);
         }
     }
 
-    private static boolean mayStillBeRefused(int kind, int v) {
-        boolean hasPlace = kind == 7 || kind == 8 || kind == 20 || kind == 23;
-        return hasPlace && v > 1 || kind == 19;
+    /** Some values may be, but are no place, or do not fit the state. */
+    private static int refusalOfValue(int kind, int k, int v) {
+        boolean beyondMemory = v == Table.FAR
+            && ((kind == 7 || kind == 8 || kind == 23) && k == 0 || kind == 20 && k == 4);
+        return beyondMemory ? 5 : kind == 19 && k == 1 && v == 0 ? 6 : 0;
     }
 
-    /** A command has just so many words: one fewer is cut, and behind them the next one begins. */
-    private static void length(int kind, int many) {
-        DrawCommands x = new DrawCommands();
-        Check.put(x, 7, 0, 1, 8, 0, 1, kind);
-        for (int k = 0; k < many - 1; k++) {
-            x.put((int) low(kind, k));
-        }
-        x.next();
-        x.next();
-        if (many > 0) {
-            Check.refusal("kind " + kind + " cut", x, 1, 6, 0);
-        }
-        x.begin(true);
-        if (many > 0) {
-            x.put(kind == 19 ? 1 : (int) low(kind, many - 1));
-        }
-        for (int i = 0; i < 3; i++) {
-            x.next();
-        }
-        Check.same("kind " + kind + " about(1)", x.about(1), 0);
-        Check.same("kind " + kind + " about(2)", x.about(2), 6);
+    private static int[] shortened(int kind, int many) {
+        int[] row = new int[1 + many];
+        row[0] = kind;
         for (int k = 0; k < many; k++) {
-            int due = kind == 19 && k == 1 ? 1 : (int) low(kind, k);
-            Check.same("kind " + kind + " argument " + k, x.argument(k), due);
+            row[1 + k] = plain(kind, k);
         }
-        Check.refused("kind " + kind + " argument " + many, Check.INDEX, () -> x.argument(many));
-        Check.refused("kind " + kind + " argument -1", Check.INDEX, () -> x.argument(-1));
-        if (kind != 0 && kind != 23) {
-            Check.done("behind kind " + kind, x, 0);
-            Check.same("behind kind " + kind, x.about(2), 7 + many);
+        return row;
+    }
+
+    private static void cut(int kind) {
+        for (int words = 0; words < Table.arguments(kind); words++) {
+            Check.refusal("kind " + kind + " cut", before(false, shortened(kind, words)), 1, 6, 0);
+            int[] row = shortened(kind, words);
+            int place = 4096 - row.length;
+            Check.refusal("kind " + kind + " cut by memory", Check.inList(place, row), 1, place, 1);
         }
     }
 
-    private static void untold(int kind, int many) {
+    private static void whole(int kind) {
+        int many = Table.arguments(kind);
+        DrawCommands x = before(false, shortened(kind, many));
+        Check.doneAt("kind " + kind, x, kind, 6, 0);
+        for (int k = 0; k < many; k++) {
+            Check.same("kind " + kind + " argument " + k, x.argument(k), plain(kind, k));
+        }
+        for (int k : new int[] {many, -1, Integer.MAX_VALUE, Integer.MIN_VALUE}) {
+            Check.refused("kind " + kind + " argument " + k, Check.INDEX, () -> x.argument(k));
+        }
+        if (kind != 0 && kind != 23) {
+            Check.doneAt("behind kind " + kind, x, 0, 7 + many, 0);
+        }
+    }
+
+    private static void untold(int kind) {
         DrawCommands x = new DrawCommands();
-        for (int n = 0; n < TABLE[kind][0]; n++) {
-            for (int k = 0; k < many; k++) {
-                long due = k == 0 && TABLE[kind][0] > 1 ? n : TABLE[kind][3 + 3 * k];
-                Check.same("untold kept(" + kind + ", " + n + ", " + k + ")", x.kept(kind, n, k), due);
+        for (int n = 0; n < Table.holders(kind); n++) {
+            for (int k = 0; k < Table.arguments(kind); k++) {
+                Check.same("untold kept(" + kind + ", " + n + ", " + k + ")", x.kept(kind, n, k),
+                    Table.untold(kind, n, k));
             }
         }
     }
 
-    private static void noneSuch(int kind, int many) {
+    private static void noneSuch(int kind) {
         DrawCommands x = new DrawCommands();
-        int holders = (int) TABLE[kind][0];
-        int[][] wrong = {{holders, 0}, {-1, 0}, {0, many}, {0, -1}, {Integer.MAX_VALUE, 0},
-            {Integer.MIN_VALUE, 0}, {0, Integer.MAX_VALUE}, {0, Integer.MIN_VALUE}};
+        int holders = Table.holders(kind);
+        int many = Table.arguments(kind);
+        int[][] wrong = {{holders, 0}, {-1, 0}, {0, many}, {0, -1}, {Integer.MAX_VALUE, 0}, {holders, many},
+            {holders - 1, many}, {Integer.MIN_VALUE, 0}, {0, Integer.MAX_VALUE}, {0, Integer.MIN_VALUE}};
         for (int[] w : wrong) {
             Check.refused("kept(" + kind + ", " + w[0] + ", " + w[1] + ")", Check.ARGUMENT,
                 () -> x.kept(kind, w[0], w[1]));
         }
-        if (holders == 0) {
-            Check.refused("kept(" + kind + ", 0, 0)", Check.ARGUMENT, () -> x.kept(kind, 0, 0));
+        for (int k = 0; k < many && holders == 0; k++) {
+            int argument = k;
+            Check.refused("kept(" + kind + ", 0, " + k + ")", Check.ARGUMENT, () -> x.kept(kind, 0, argument));
         }
     }
 }

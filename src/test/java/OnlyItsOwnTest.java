@@ -1,5 +1,3 @@
-import java.util.Arrays;
-
 /** A command changes what it tells and nothing beside it, whatever came before. */
 public final class OnlyItsOwnTest {
     /** Commands with arguments that would show in a wrong place. */
@@ -11,7 +9,12 @@ public final class OnlyItsOwnTest {
         {21, 800, 3, 17, 18, 19}, {22}, {23, 900}, {24, 3, 2, 1, 3}, {25, 1, 2, -3, -4, -5}
     };
 
+    /** Where a wrong writing would likely go: first words, what the commands name, the last words. */
+    private static final int[] WATCHED = {0, 1, 2, 3, 4, 30, 33, 500, 501, 502, 503, 504, 505, 506, 507, 508,
+        700, 701, 702, 703, 704, 705, 799, 800, 801, 802, 803, 900, 901, 4094, 4095};
+
     public static void main(String[] args) {
+        Check.sentence("What a command told is KEPT, for each kind");
         for (int[] before : COMMANDS) {
             for (int[] then : COMMANDS) {
                 if (before[0] != 0 && before[0] != 23) {
@@ -23,35 +26,28 @@ public final class OnlyItsOwnTest {
     }
 
     private static void pair(int[] before, int[] then) {
-        DrawCommands x = Check.of(7, 0, 1, 8, 0, 1);
+        Both x = new Both("kind " + then[0] + " behind kind " + before[0]);
         x.frame(9, 9);
-        Check.memory(x, 500, 61, 62, 63, 64, 65, 66, 67, 68, 69);
-        Check.put(x, before);
-        for (int i = 0; i < 3; i++) {
+        for (int place : WATCHED) {
+            x.word(place, 61 + place);
+        }
+        x.word(900, 0);
+        boolean ends = before[0] == 19 && then[0] == 19;
+        int[][] commands = {{7, 0, 1}, {8, 0, 1}, before, ends ? new int[] {19, 3, 0} : then};
+        for (int[] words : commands) {
+            for (int v : words) {
+                x.put(v);
+            }
             x.next();
         }
-        String what = "kind " + then[0] + " behind kind " + before[0];
-        boolean ends = before[0] == 19 && then[0] == 19;
-        int[] words = ends ? new int[] {19, 3, 0} : then;
-        Check.put(x, words);
-        Snapshot due = Snapshot.of(x);
-        Check.done(what, x, words[0]);
-        tellInto(due, words);
-        Check.same(what + " changes only its own", due.same(Snapshot.of(x)) ? 1 : 0, 1);
-    }
-
-    private static void tellInto(Snapshot due, int[] words) {
-        int kind = words[0];
-        if (kind == 6) {
-            due.tell(5, 4, 4, 61, 62, 63, 64);
-            due.tell(5, 5, 5, 65, 66, 67, 68);
-        } else if (kind == 19) {
-            due.open(words[2] == 1 ? words[1] : DrawCommands.NONE);
-        } else if (kind == 21) {
-            due.store(words[1], 17, 18, 19);
-        } else if (Snapshot.HOLDERS[kind] > 0) {
-            int n = Snapshot.HOLDERS[kind] > 1 ? words[1] : 0;
-            due.tell(kind, n, Arrays.copyOfRange(words, 1, words.length));
+        Check.same("kind " + then[0] + " is done", x.model().about(4), 4);
+        for (int k = -1; k < then.length; k++) {
+            x.argument(k);
         }
+        x.lookAtAll();
+        for (int place : WATCHED) {
+            x.word(place, 0);
+        }
+        Check.same("all was looked at within the promised calls", x.has(1) ? 1 : 0, 1);
     }
 }
