@@ -165,7 +165,7 @@ public final class ModelTest {
                 break;
             case 21:
                 words[2] = below(5);
-                words[1] = once(2) ? below(200) : 4096 - words[2] + off;
+                words[1] = once(3) ? below(200) : once(2) ? LISTS[below(4)] + below(16) : 4096 - words[2] + off;
                 break;
             case 23:
                 words[1] = once(12) ? 4096 : LISTS[below(LISTS.length)];

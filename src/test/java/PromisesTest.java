@@ -86,16 +86,25 @@ public final class PromisesTest {
         y.frame(3, 1);
         Check.refusal("the frame as it became in the run", y, 5, 7, 0);
         Check.sentence("IllegalArgumentException if it is not so.");
-        DrawCommands z = Check.of(20, 0, 0, 3, 2, 0, 0, 20, 0, 0, 3, 3, 0, 0);
-        z.frame(3, 2);
         for (int v : new int[] {0, -1, 129, 130, LEAST, MOST}) {
-            Check.refused("frame(" + v + ", 1)", Check.ARGUMENT, () -> z.frame(v, 1));
-            Check.refused("frame(1, " + v + ")", Check.ARGUMENT, () -> z.frame(1, v));
-            Check.refused("frame(" + v + ", 128)", Check.ARGUMENT, () -> z.frame(v, 128));
-            Check.refused("frame(128, " + v + ")", Check.ARGUMENT, () -> z.frame(128, v));
+            for (int other : new int[] {1, 2, 3, 4, 128}) {
+                frameStays3By2(v, other);
+                frameStays3By2(other, v);
+            }
+            frameStays3By2(v, v);
         }
-        Check.done("wide 3, high 2 still", z, 20);
-        Check.refusal("no higher still", z, 5, 7, 0);
+    }
+
+    private static void frameStays3By2(int wide, int high) {
+        int[][] larger = {{20, 0, 0, 4, 1, 0, 0}, {20, 0, 0, 1, 3, 0, 0}};
+        for (int[] copy : larger) {
+            DrawCommands x = Check.of(20, 0, 0, 3, 2, 0, 0);
+            Check.put(x, copy);
+            x.frame(3, 2);
+            Check.refused("frame(" + wide + ", " + high + ")", Check.ARGUMENT, () -> x.frame(wide, high));
+            Check.done("no smaller", x, 20);
+            Check.refusal("no larger", x, 5, 7, 0);
+        }
     }
 
     private static void put() {

@@ -616,6 +616,16 @@ public final class TermsTest {
         }
         y.word(107, 22);
         Check.doneAt("behind its own words", y, 22, 107, 1);
+        DrawCommands w = Check.inList(100, 21, 104, 4, 1, 2, 3, 4, 22, 0);
+        Check.done("over its own words, one on", w, 21);
+        int[] onward = {104, 4, 1, 2, 3, 4};
+        for (int k = 0; k < onward.length; k++) {
+            Check.same("argument " + k, w.argument(k), onward[k]);
+        }
+        int[] moved = {21, 104, 4, 1, 1, 2, 3, 4, 0};
+        for (int i = 0; i < moved.length; i++) {
+            Check.same("word " + (100 + i), w.word(100 + i, moved[i]), moved[i]);
+        }
         DrawCommands z = Check.inList(100, 21, 104, 1, 22, 99);
         Check.done("over the next command", z, 21);
         Check.doneAt("the stored one", z, 22, 104, 1);
